@@ -18,6 +18,8 @@ public final class BowlsGreen {
     private static final int MOST_STRENGTH = 20;
     private static final int SHOTS_OF_CLUB_1 = 10;
     private static final int COLUMN_FACTOR = 100;
+    /** Greater than each distance on the green. */
+    private static final int BEYOND = 1000000;
 
     private static final int MOST_WET = 20;
     private static final int TOO_WET = 8;
@@ -160,7 +162,7 @@ public final class BowlsGreen {
 
     public int script() {
         past.note(green);
-        int answer = carryOutInput();
+        int answer = orders.read(input) ? carryOutOrders() : keepFault();
         input.setLength(0);
         return settle(answer);
     }
@@ -233,15 +235,15 @@ public final class BowlsGreen {
             return refuse(END_IS_PLAYED, place.jack);
         }
         if (place.wet >= TOO_WET) {
-            return refuseWetRink(rink, place.wet);
+            return refuseWetRink(place.wet, green.hoursUntilDry(rink));
         }
         place.startEnd(length);
         return place.turn;
     }
 
-    private int refuseWetRink(int rink, int wet) {
+    private int refuseWetRink(int wet, int hours) {
         reasons.empty();
-        reasons.put(HOURS_UNTIL_DRY, green.hoursUntilDry(rink));
+        reasons.put(HOURS_UNTIL_DRY, hours);
         reasons.put(RINK_TOO_WET, wet);
         return REFUSED;
     }
@@ -383,11 +385,12 @@ public final class BowlsGreen {
 
     // Scripts and reasons.
 
-    private int carryOutInput() {
-        if (!orders.read(input)) {
-            faultPosition = orders.position;
-            return BAD;
-        }
+    private int keepFault() {
+        faultPosition = orders.position;
+        return BAD;
+    }
+
+    private int carryOutOrders() {
         for (int order = 0; order < orders.count; order++) {
             int answer = carryOut(order);
             if (isCode(answer)) {
@@ -568,7 +571,7 @@ public final class BowlsGreen {
             return NOTHING;
         }
         int best = NOTHING;
-        int least = Integer.MAX_VALUE;
+        int least = BEYOND;
         for (int strength = 1; strength <= MOST_STRENGTH; strength++) {
             int landing = green.landing(rink, wood, column, strength, isRight);
             if (landing != NOTHING) {
@@ -1049,9 +1052,9 @@ public final class BowlsGreen {
             return SHOTS_OF_CLUB_1 + woodsNearerThan(rink, 1, leastOfZero);
         }
 
-        /** The greatest number there is if no wood of the club lies, so that all of the other club are nearer. */
+        /** BEYOND if no wood of the club lies, so that all of the other club are nearer. */
         private int leastDistance(int rink, int club) {
-            int least = Integer.MAX_VALUE;
+            int least = BEYOND;
             for (int i = 0; i < woodCount; i++) {
                 if (woods[i].club == club && woods[i].liesOn(rink)) {
                     least = Math.min(least, woods[i].distance);

@@ -381,6 +381,19 @@ public final class EndsTest {
         CHECK.due("bestStrength(0, 3, 7, true): 730 is taken", x.bestStrength(0, 3, 7, true), 14);
     }
 
+    /** On a slow rink the greatest strength comes nearest to a far jack. */
+    private static void greatestStrength() {
+        CHECK.promise(25);
+        BowlsGreen x = straightGreen(1);
+        x.begin(0, 40);
+        wet(x, 9);
+        CHECK.due("bestStrength(0, 0, 7, true)", x.bestStrength(0, 0, 7, true), 20);
+        wet(x, 8);
+        CHECK.due("bestStrength(0, 0, 7, true)", x.bestStrength(0, 0, 7, true), 20);
+        wet(x, 7);
+        CHECK.due("bestStrength(0, 0, 7, true): 41 is dead", x.bestStrength(0, 0, 7, true), 19);
+    }
+
     /** All strengths but 1 lead out of the rink, and this one to the length 0, which is then taken. */
     private static void noStrength() {
         CHECK.promise(25);
@@ -411,6 +424,7 @@ public final class EndsTest {
         wouldAmongOthers();
         slowWoods();
         bestStrength();
+        greatestStrength();
         noStrength();
         CHECK.end();
     }

@@ -85,10 +85,7 @@ public final class PastTest {
         CHECK.promise(35);
         for (int number = 0; number < 13; number++) {
             BowlsGreen x = changed();
-            x.sun(0);
-            x.undo();
             String before = Check.all(x);
-            CHECK.due("account(14)", x.account(14), 7);
             if (number == 2) { // an end can begin on a dry rink alone
                 x.sun(9);
                 x.hour(2);
@@ -99,6 +96,35 @@ public final class PastTest {
             CHECK.due("undo() of " + number, x.undo(), 7);
             CHECK.dueText("undone " + number, Check.all(x), before);
         }
+    }
+
+    /** What bowling and closing change, and what shows only in the ends to come. */
+    private static void undoInEnds() {
+        CHECK.promise(35);
+        BowlsGreen x = new BowlsGreen();
+        x.rink(5, 10);
+        for (int i = 0; i < 10; i++) {
+            x.wood(i % 2, 0);
+        }
+        x.begin(0, 30);
+        for (int i = 0; i < 8; i++) {
+            x.bowl(0, i, 7, 20, true);
+        }
+        x.undo();
+        x.undo();
+        CHECK.due("bowl(0, 8, 7, 13, true): the fourth again", x.bowl(0, 8, 7, 13, true), 0);
+        CHECK.due("bowl(0, 9, 7, 14, true)", x.bowl(0, 9, 7, 14, true), 4);
+        CHECK.due("bowl(0, 6, 7, 13, true)", x.bowl(0, 6, 7, 13, true), REFUSED);
+        CHECK.dueText("reasons", Check.reasons(x), "8/4");
+        x.undo();
+        x.undo();
+        x.undo();
+        x.bowl(0, 7, 7, 13, true);
+        CHECK.due("close(0)", x.close(0), 11);
+        x.undo();
+        x.undo();
+        CHECK.due("close(0): nobody counts", x.close(0), 0);
+        CHECK.due("begin(0, 30): nobody won an end", x.begin(0, 30), 0);
     }
 
     private static void undoEight() {
@@ -231,6 +257,7 @@ public final class PastTest {
     public static void main(String[] args) {
         clear();
         undoEach();
+        undoInEnds();
         undoEight();
         whatStays();
         codesAreNoChanges();
