@@ -63,6 +63,35 @@ public final class PastTest {
         CHECK.dueText("what was saved stays", Check.all(x), saved);
     }
 
+    private static void lay(BowlsGreen x) {
+        for (int i = 0; i < 2; i++) {
+            x.rink(5 * i, 5 * i + 4);
+            x.wood(1 - i, i);
+        }
+    }
+
+    /** Rinks and woods with numbers that others had before know nothing of those. */
+    private static void laidAnew() {
+        CHECK.promise(2);
+        BowlsGreen fresh = new BowlsGreen();
+        lay(fresh);
+        BowlsGreen x = new BowlsGreen();
+        lay(x);
+        x.begin(0, 20);
+        x.bowl(0, 1, 2, 20, true);
+        x.bowl(0, 0, 2, 8, true);
+        CHECK.due("close(0)", x.close(0), 11);
+        x.rain(9);
+        x.hour(1);
+        x.begin(0, 20);
+        x.bowl(0, 0, 2, 8, true);
+        x.clear();
+        lay(x);
+        CHECK.dueText("as on a new green", Check.all(x), Check.all(fresh));
+        CHECK.due("begin(0, 20)", x.begin(0, 20), 0);
+        CHECK.due("bowl(0, 1, 2, 8, true)", x.bowl(0, 1, 2, 8, true), 0);
+    }
+
     private static void change(BowlsGreen x, int number) {
         switch (number) {
             case 0 -> CHECK.due("rink", x.rink(21, 25), 2);
@@ -256,6 +285,7 @@ public final class PastTest {
 
     public static void main(String[] args) {
         clear();
+        laidAnew();
         undoEach();
         undoInEnds();
         undoEight();

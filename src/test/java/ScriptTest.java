@@ -50,6 +50,20 @@ public final class ScriptTest {
         CHECK.dueText("reasons", Check.reasons(x), "");
     }
 
+    /** Each order has its own numbers, and each wood its own side. */
+    private static void sides() {
+        CHECK.promise(15);
+        BowlsGreen x = green();
+        CHECK.due("both sides", Check.script(x, "e0:30;b0,0@4*10+;b0,1@6*10-;r0;h1"), 5);
+        CHECK.due("woodOf(0, 4)", x.woodOf(0, 4), 7);
+        CHECK.due("woodOf(1, 4)", x.woodOf(1, 4), 1);
+        x.undo();
+        CHECK.due("the other sides", Check.script(x, "e0:30;b0,0@4*10-;b0,1@4*10+;r9"), 4);
+        CHECK.due("woodOf(0, 4)", x.woodOf(0, 4), 1);
+        CHECK.due("woodOf(1, 4)", x.woodOf(1, 4), 9);
+        CHECK.due("account(1)", x.account(1), 9);
+    }
+
     private static void deadWood() {
         CHECK.promise(15);
         BowlsGreen x = green();
@@ -194,6 +208,7 @@ public final class ScriptTest {
 
     public static void main(String[] args) {
         orders();
+        sides();
         deadWood();
         refused();
         refusedWhenFull();
