@@ -1367,7 +1367,7 @@ public final class BowlsGreen {
             return true;
         }
 
-        /** What follows the sign of an order: d a digit, n a number, + a side, else that very sign; empty for no order. */
+        /** What follows an order's sign: d a digit, n a number, + a side, else that very sign; empty for no order. */
         private static String formOf(int sign) {
             switch (sign) {
                 case 'e':
