@@ -1,12 +1,48 @@
+import java.util.ArrayList;
+import java.util.List;
 import java.util.Objects;
 
 /** Compares answers with those that are due, prints the wrong ones, and ends a test. */
 final class Check {
+    private static final int MOST_TOLD = 200;
+    private static final long MOST_MILLISECONDS = 300_000;
+
     private int wrong;
     private String promise = "";
+    private final List<Held> held = new ArrayList<>();
+
+    /** A sentence of the document, and the promise in which a test holds the class to it. */
+    record Held(int promise, String sentence) {
+    }
+
+    Check() {
+        Thread watch = new Thread(Check::endLate);
+        watch.setDaemon(true);
+        watch.start();
+    }
+
+    /** A call that never answers must not keep the test from failing. */
+    private static void endLate() {
+        try {
+            Thread.sleep(MOST_MILLISECONDS);
+        } catch (InterruptedException e) {
+            return;
+        }
+        System.out.println("no end within " + MOST_MILLISECONDS / 1000 + " seconds");
+        Runtime.getRuntime().halt(1);
+    }
 
     void promise(int number) {
         promise = "promise " + number;
+    }
+
+    void holds(int number, String sentence) {
+        held.add(new Held(number, sentence));
+        promise = "promise " + number + ", \"" + sentence + "\"";
+    }
+
+    List<Held> held() {
+        return held;
     }
 
     void due(String call, long got, long want) {
@@ -29,7 +65,9 @@ final class Check {
 
     private void tell(String call, Object got, Object want) {
         wrong++;
-        System.out.println(promise + ": " + call + " answered " + got + ", due is " + want);
+        if (wrong <= MOST_TOLD) {
+            System.out.println(promise + ": " + call + " answered " + got + ", due is " + want);
+        }
     }
 
     void end() {
@@ -40,55 +78,39 @@ final class Check {
     }
 
     /** The reasons, from the last one to the one behind all others, as in "12/0 3/8 13/2". */
-    static String reasons(BowlsGreen green) {
+    static String reasons(CountedGreen green) {
         StringBuilder text = new StringBuilder();
-        for (int depth = 0; depth < 10 && green.reason(depth, false) != BowlsGreen.NOTHING; depth++) {
-            text.append(depth == 0 ? "" : " ").append(green.reason(depth, false));
-            text.append('/').append(green.reason(depth, true));
+        int reason = green.reason(0, false);
+        for (int depth = 0; depth < 10 && reason != BowlsGreen.NOTHING; depth++) {
+            text.append(depth == 0 ? "" : " ").append(reason).append('/').append(green.reason(depth, true));
+            reason = green.reason(depth + 1, false);
         }
         return text.toString();
     }
 
-    static void type(BowlsGreen green, String text) {
+    static void type(CountedGreen green, String text) {
         for (char character : text.toCharArray()) {
             green.append(character);
         }
     }
 
-    static int script(BowlsGreen green, String text) {
+    static int script(CountedGreen green, String text) {
         type(green, text);
         return green.script();
     }
 
-    static String line(BowlsGreen green) {
+    static String line(CountedGreen green) {
         StringBuilder text = new StringBuilder();
-        for (int i = 0; green.written(i) != BowlsGreen.NONE; i++) {
-            text.append((char) green.written(i));
+        int code = green.written(0);
+        while (code != BowlsGreen.NONE) {
+            text.append((char) code);
+            code = green.written(text.length());
         }
         return text.toString();
     }
 
-    /** All that is told of a green, but for the reasons, the fault position and the written line. */
-    static String all(BowlsGreen green) {
-        StringBuilder text = new StringBuilder();
-        for (int what = 0; what <= 12; what++) {
-            text.append(green.account(what)).append(' ');
-        }
-        for (int rink = 0; rink < 4; rink++) {
-            for (int what = 0; what <= 8; what++) {
-                text.append(green.rinkOf(rink, what)).append(' ');
-            }
-        }
-        for (int wood = 0; wood < 16; wood++) {
-            for (int what = 0; what <= 7; what++) {
-                text.append(green.woodOf(wood, what)).append(' ');
-            }
-        }
-        for (int club = 0; club < 2; club++) {
-            for (int what = 0; what <= 5; what++) {
-                text.append(green.clubOf(club, what)).append(' ');
-            }
-        }
-        return text.toString();
+    /** All that changes can change, as far as it is told. */
+    static String all(CountedGreen green) {
+        return String.join("\n", Told.green(green));
     }
 }

@@ -7,8 +7,8 @@ public final class EndsTest {
     private static final Check CHECK = new Check();
 
     /** A rink from 5 to 10, with its middle at 7, and as many woods without bias, of the clubs 0 and 1 in turn. */
-    private static BowlsGreen straightGreen(int woods) {
-        BowlsGreen x = new BowlsGreen();
+    private static CountedGreen straightGreen(int woods) {
+        CountedGreen x = new CountedGreen();
         x.rink(5, 10);
         for (int i = 0; i < woods; i++) {
             x.wood(i % 2, 0);
@@ -17,7 +17,7 @@ public final class EndsTest {
     }
 
     /** Lets it rain until the rinks are wet by so much. */
-    private static void wet(BowlsGreen x, int wet) {
+    private static void wet(CountedGreen x, int wet) {
         x.rain(0);
         x.sun(9);
         x.hour(3);
@@ -32,7 +32,7 @@ public final class EndsTest {
 
     private static void begin() {
         CHECK.promise(6);
-        BowlsGreen x = new BowlsGreen();
+        CountedGreen x = new CountedGreen();
         CHECK.due("begin(0, 30)", x.begin(0, 30), NONE);
         x.rink(5, 10);
         CHECK.due("begin(-1, 30)", x.begin(-1, 30), NONE);
@@ -69,7 +69,7 @@ public final class EndsTest {
 
     private static void whoBegins() {
         CHECK.promise(6);
-        BowlsGreen x = straightGreen(8);
+        CountedGreen x = straightGreen(8);
         x.rink(11, 13);
         x.begin(0, 30);
         x.bowl(0, 0, 7, 1, true);
@@ -92,7 +92,7 @@ public final class EndsTest {
 
     private static void bowl() {
         CHECK.promise(7);
-        BowlsGreen x = straightGreen(2);
+        CountedGreen x = straightGreen(2);
         CHECK.due("bowl(1, 0, 7, 5, true)", x.bowl(1, 0, 7, 5, true), NONE);
         CHECK.due("bowl(-1, 0, 7, 5, true)", x.bowl(-1, 0, 7, 5, true), NONE);
         CHECK.due("bowl(0, 2, 7, 5, true)", x.bowl(0, 2, 7, 5, true), NONE);
@@ -125,7 +125,7 @@ public final class EndsTest {
 
     private static void bowlReasons() {
         CHECK.promise(7);
-        BowlsGreen x = straightGreen(12);
+        CountedGreen x = straightGreen(12);
         x.rink(11, 14);
         x.begin(0, 30);
         for (int i = 0; i < 8; i++) {
@@ -156,7 +156,7 @@ public final class EndsTest {
 
     private static void close() {
         CHECK.promise(8);
-        BowlsGreen x = straightGreen(6);
+        CountedGreen x = straightGreen(6);
         CHECK.due("close(1)", x.close(1), NONE);
         CHECK.due("close(-1)", x.close(-1), NONE);
         CHECK.due("close(0)", x.close(0), REFUSED);
@@ -198,7 +198,7 @@ public final class EndsTest {
 
     private static void nearest() {
         CHECK.promise(22);
-        BowlsGreen x = straightGreen(8);
+        CountedGreen x = straightGreen(8);
         CHECK.due("nearest(1, 0)", x.nearest(1, 0), NONE);
         CHECK.due("nearest(-1, -1)", x.nearest(-1, -1), NONE);
         CHECK.due("nearest(0, 0)", x.nearest(0, 0), NOTHING);
@@ -220,14 +220,14 @@ public final class EndsTest {
         CHECK.due("nearest(0, 0)", x.nearest(0, 0), NOTHING);
     }
 
-    private static void dueShots(BowlsGreen x, int want) {
+    private static void dueShots(CountedGreen x, int want) {
         CHECK.due("shots(0, false)", x.shots(0, false), want);
         CHECK.due("shots(0, true)", x.shots(0, true), want);
     }
 
     private static void shots() {
         CHECK.promise(23);
-        BowlsGreen x = straightGreen(8);
+        CountedGreen x = straightGreen(8);
         CHECK.due("shots(1, false)", x.shots(1, false), NONE);
         CHECK.due("shots(-1, true)", x.shots(-1, true), NONE);
         dueShots(x, NOTHING);
@@ -263,7 +263,7 @@ public final class EndsTest {
 
     private static void allShots() {
         CHECK.promise(23);
-        BowlsGreen x = straightGreen(8);
+        CountedGreen x = straightGreen(8);
         x.begin(0, 30);
         for (int i = 0; i < 8; i += 2) {
             x.bowl(0, i, 7, 20, true);
@@ -276,7 +276,7 @@ public final class EndsTest {
 
     private static void would() {
         CHECK.promise(24);
-        BowlsGreen x = new BowlsGreen();
+        CountedGreen x = new CountedGreen();
         x.rink(5, 10);
         x.wood(0, 0);
         x.wood(1, 9);
@@ -309,7 +309,7 @@ public final class EndsTest {
 
     private static void wouldAmongOthers() {
         CHECK.promise(24);
-        BowlsGreen x = straightGreen(6);
+        CountedGreen x = straightGreen(6);
         x.rink(11, 15);
         x.begin(0, 30);
         x.bowl(0, 0, 7, 13, true);
@@ -334,7 +334,7 @@ public final class EndsTest {
     /** Casts and rain that keep weak woods at the length 0, where the second one has no lesser length. */
     private static void slowWoods() {
         CHECK.promise(7);
-        BowlsGreen x = straightGreen(4);
+        CountedGreen x = straightGreen(4);
         wet(x, 20);
         x.hour(9);
         CHECK.due("rinkOf(0, 3)", x.rinkOf(0, 3), 9);
@@ -357,7 +357,7 @@ public final class EndsTest {
 
     private static void bestStrength() {
         CHECK.promise(25);
-        BowlsGreen x = new BowlsGreen();
+        CountedGreen x = new CountedGreen();
         x.rink(5, 10);
         x.wood(0, 0);
         x.wood(1, 9);
@@ -384,7 +384,7 @@ public final class EndsTest {
     /** On a slow rink the greatest strength comes nearest to a far jack. */
     private static void greatestStrength() {
         CHECK.promise(25);
-        BowlsGreen x = straightGreen(1);
+        CountedGreen x = straightGreen(1);
         x.begin(0, 40);
         wet(x, 9);
         CHECK.due("bestStrength(0, 0, 7, true)", x.bestStrength(0, 0, 7, true), 20);
@@ -397,7 +397,7 @@ public final class EndsTest {
     /** All strengths but 1 lead out of the rink, and this one to the length 0, which is then taken. */
     private static void noStrength() {
         CHECK.promise(25);
-        BowlsGreen x = new BowlsGreen();
+        CountedGreen x = new CountedGreen();
         x.rink(0, 2);
         x.wood(0, 0);
         x.wood(1, 6);

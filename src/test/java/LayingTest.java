@@ -8,7 +8,7 @@ public final class LayingTest {
 
     private static void newObject() {
         CHECK.promise(1);
-        BowlsGreen x = new BowlsGreen();
+        CountedGreen x = new CountedGreen();
         int[] accounts = {0, 1, 2, 0, 0, 0, 0, 0, 12, 0, 0, 0, 0, 0, 0};
         for (int what = 0; what < accounts.length; what++) {
             CHECK.due("account(" + what + ")", x.account(what), accounts[what]);
@@ -31,7 +31,7 @@ public final class LayingTest {
 
     private static void append() {
         CHECK.promise(3);
-        BowlsGreen x = new BowlsGreen();
+        CountedGreen x = new CountedGreen();
         CHECK.due("append(31)", x.append((char) 31), BAD);
         CHECK.due("append(127)", x.append((char) 127), BAD);
         CHECK.due("append(0)", x.append((char) 0), BAD);
@@ -51,7 +51,7 @@ public final class LayingTest {
 
     private static void rink() {
         CHECK.promise(4);
-        BowlsGreen x = new BowlsGreen();
+        CountedGreen x = new CountedGreen();
         CHECK.due("rink(-1, 3)", x.rink(-1, 3), BAD);
         CHECK.due("rink(27, 30)", x.rink(27, 30), BAD);
         CHECK.due("rink(30, 32)", x.rink(30, 32), BAD);
@@ -90,7 +90,7 @@ public final class LayingTest {
 
     private static void wood() {
         CHECK.promise(5);
-        BowlsGreen x = new BowlsGreen();
+        CountedGreen x = new CountedGreen();
         CHECK.due("wood(-1, 0)", x.wood(-1, 0), NONE);
         CHECK.due("wood(2, 0)", x.wood(2, 0), NONE);
         CHECK.due("wood(2, 10)", x.wood(2, 10), NONE);
@@ -112,7 +112,7 @@ public final class LayingTest {
 
     private static void rinkAt() {
         CHECK.promise(21);
-        BowlsGreen x = new BowlsGreen();
+        CountedGreen x = new CountedGreen();
         CHECK.due("rinkAt(0)", x.rinkAt(0), NONE);
         x.rink(20, 25);
         x.rink(0, 3);

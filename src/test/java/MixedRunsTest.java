@@ -1,7 +1,8 @@
 /** Runs of mixed calls, the same ones each time, in which every answer is the one of the PlainGreen. */
 public final class MixedRunsTest {
-    private static final int RUNS = 1500;
-    private static final int CALLS = 512;
+    private static final int RUNS = 6000;
+    /** Some more characters than the input holds. */
+    private static final int MOST_TYPED = 66;
     private static final int[] WILD = {Integer.MIN_VALUE, -100, -1, 41, 100, 1 << 16, Integer.MAX_VALUE};
     private static final String SIGNS = "ebcwrsth0123456789:,@*+-; x~";
 
@@ -24,11 +25,10 @@ public final class MixedRunsTest {
     }
 
     private final Check check = new Check();
-    private BowlsGreen x;
+    private CountedGreen x;
     private PlainGreen plain;
     private Dice dice;
     private int run;
-    private int call;
 
     private int number(int least, int most) {
         if (dice.nextInt(60) == 0) {
@@ -39,24 +39,24 @@ public final class MixedRunsTest {
 
     /** Mostly a rink that there is. */
     private int rink() {
-        return dice.nextInt(12) == 0 ? number(-1, 4) : dice.nextInt(Math.max(1, x.account(3)));
+        return dice.nextInt(12) == 0 ? number(-1, 4) : dice.nextInt(Math.max(1, plain.account(3)));
     }
 
     /** Mostly a wood that could be bowled on the rink. */
     private int wood(int rink) {
         int wood = number(-1, 16);
         for (int i = 0; i < 20; i++) {
-            if (dice.nextInt(15) == 0 || x.woodOf(wood, 2) == 0 && x.woodOf(wood, 0) == x.rinkOf(rink, 5)) {
+            if (dice.nextInt(15) == 0 || plain.woodOf(wood, 2) == 0 && plain.woodOf(wood, 0) == plain.rinkOf(rink, 5)) {
                 return wood;
             }
-            wood = number(0, Math.max(0, x.account(4) - 1));
+            wood = number(0, Math.max(0, plain.account(4) - 1));
         }
         return wood;
     }
 
     private int column(int rink) {
-        int first = Math.max(0, x.rinkOf(rink, 0));
-        int last = Math.max(first + 2, x.rinkOf(rink, 1));
+        int first = Math.max(0, plain.rinkOf(rink, 0));
+        int last = Math.max(first + 2, plain.rinkOf(rink, 1));
         return dice.nextInt(20) == 0 ? number(first - 1, last + 1) : first + dice.nextInt(last - first + 1);
     }
 
@@ -66,7 +66,7 @@ public final class MixedRunsTest {
     }
 
     private void due(String name, long got, long want) {
-        check.due("run " + run + ", call " + call + ": " + name, got, want);
+        check.due("run " + run + ", call " + x.calls() + ": " + name, got, want);
     }
 
     private void change(String name, int... a) {
@@ -119,7 +119,7 @@ public final class MixedRunsTest {
         if (dice.nextInt(8) == 0) {
             text.setLength(dice.nextInt(text.length() + 1));
         }
-        for (int i = 0; i < text.length(); i++) {
+        for (int i = 0; i < text.length() && i < MOST_TYPED; i++) {
             due("append", x.append(text.charAt(i)), plain.append(text.charAt(i)));
         }
         change("script");
@@ -142,7 +142,11 @@ public final class MixedRunsTest {
             case 21 -> change("brew", number(0, 21));
             case 22 -> change("tea", number(0, 1));
             case 23 -> change("hour", dice.nextInt(4) == 0 ? number(0, 25) : number(1, 4));
-            case 24, 25, 26, 27 -> type();
+            case 24, 25, 26, 27 -> {
+                if (hasRoom(MOST_TYPED + 2)) {
+                    type();
+                }
+            }
             case 28, 29 -> due("undo", x.undo(), plain.undo());
             case 30 -> {
                 char character = (char) number(30, 128);
@@ -168,73 +172,93 @@ public final class MixedRunsTest {
 
     private void tell() {
         int rink = rink();
-        int wood = wood(rink);
-        int column = column(rink);
-        int strength = strength();
-        boolean isRight = dice.nextBoolean();
-        int hours = number(0, 41);
+        int wood = number(-1, 16);
+        int what = number(-1, 15);
         int place = number(-1, 9);
-        due("would", x.would(rink, wood, column, strength, isRight), plain.would(rink, wood, column, strength, isRight));
-        due("bestStrength", x.bestStrength(rink, wood, column, isRight), plain.bestStrength(rink, wood, column, isRight));
-        due("nearest", x.nearest(rink, place), plain.nearest(rink, place));
-        due("rinkAt", x.rinkAt(place), plain.rinkAt(place));
-        due("shots", x.shots(rink, false), plain.shots(rink));
-        due("shots again", x.shots(rink, true), plain.shots(rink));
-        due("wetIn", x.wetIn(rink, hours), plain.wetIn(rink, hours));
-        due("castsIn", x.castsIn(rink, hours), plain.castsIn(rink, hours));
-        due("dryIn", x.dryIn(rink), plain.dryIn(rink));
-        due("leader", x.leader(), plain.leader());
-        due("describe", x.describe(rink), plain.describe(rink));
-        check.dueDouble("meanWet", x.meanWet(), plain.meanWet());
-        check.dueDouble("winShare", x.winShare(), plain.winShare());
-        for (int depth = -1; depth < 4; depth++) {
-            due("reason", x.reason(depth, false), plain.reason(depth, false));
-            due("detail", x.reason(depth, true), plain.reason(depth, true));
+        int hours = number(0, 41);
+        boolean isOther = dice.nextBoolean();
+        switch (dice.nextInt(20)) {
+            case 0, 1 -> due("account " + what, x.account(what), plain.account(what));
+            case 2, 3, 4 -> due("rinkOf " + rink + " " + place, x.rinkOf(rink, place), plain.rinkOf(rink, place));
+            case 5, 6, 7 -> due("woodOf " + wood + " " + place, x.woodOf(wood, place), plain.woodOf(wood, place));
+            case 8 -> {
+                int club = number(-1, 2);
+                due("clubOf " + club + " " + place, x.clubOf(club, place), plain.clubOf(club, place));
+            }
+            case 9 -> due("rinkAt " + place, x.rinkAt(place), plain.rinkAt(place));
+            case 10 -> due("nearest " + rink + " " + place, x.nearest(rink, place), plain.nearest(rink, place));
+            case 11 -> due("shots " + rink, x.shots(rink, isOther), plain.shots(rink));
+            case 12 -> tellWould(rink, wood, isOther);
+            case 13 -> due("wetIn " + rink + " " + hours, x.wetIn(rink, hours), plain.wetIn(rink, hours));
+            case 14 -> due("castsIn " + rink + " " + hours, x.castsIn(rink, hours), plain.castsIn(rink, hours));
+            case 15 -> due("dryIn " + rink, x.dryIn(rink), plain.dryIn(rink));
+            case 16 -> due("leader", x.leader(), plain.leader());
+            case 17 -> tellLine(rink);
+            case 18 -> tellShares(isOther);
+            default -> tellReason(isOther);
         }
-        due("fault", x.fault(), plain.fault());
     }
 
-    private void tellAll() {
-        for (int what = -1; what <= 15; what++) {
-            due("account " + what, x.account(what), plain.account(what));
+    private void tellWould(int rink, int wood, boolean isRight) {
+        int column = column(rink);
+        int strength = strength();
+        if (dice.nextBoolean()) {
+            due("would", x.would(rink, wood, column, strength, isRight), plain.would(rink, wood, column, strength, isRight));
+        } else {
+            due("bestStrength", x.bestStrength(rink, wood, column, isRight), plain.bestStrength(rink, wood, column, isRight));
         }
-        for (int rink = -1; rink <= 4; rink++) {
-            for (int what = -1; what <= 9; what++) {
-                due("rinkOf " + rink + " " + what, x.rinkOf(rink, what), plain.rinkOf(rink, what));
-            }
-        }
-        for (int wood = -1; wood <= 16; wood++) {
-            for (int what = -1; what <= 8; what++) {
-                due("woodOf " + wood + " " + what, x.woodOf(wood, what), plain.woodOf(wood, what));
-            }
-        }
-        for (int club = -1; club <= 2; club++) {
-            for (int what = -1; what <= 6; what++) {
-                due("clubOf " + club + " " + what, x.clubOf(club, what), plain.clubOf(club, what));
-            }
-        }
-        for (int index = -1; index < 100; index++) {
+    }
+
+    private void tellLine(int rink) {
+        int index = number(-1, 40);
+        if (dice.nextInt(4) == 0) {
+            due("describe", x.describe(rink), plain.describe(rink));
+        } else {
             due("written " + index, x.written(index), plain.written(index));
         }
     }
 
-    private void runAll() {
-        for (run = 0; run < RUNS; run++) {
-            dice = new Dice(run);
-            x = new BowlsGreen();
-            plain = new PlainGreen();
-            for (call = 0; call < CALLS / 4; call++) {
+    private void tellShares(boolean isOther) {
+        if (isOther) {
+            check.dueDouble("meanWet", x.meanWet(), plain.meanWet());
+        } else {
+            check.dueDouble("winShare", x.winShare(), plain.winShare());
+        }
+    }
+
+    private void tellReason(boolean isDetail) {
+        int depth = number(-1, 3);
+        if (dice.nextInt(4) == 0) {
+            due("fault", x.fault(), plain.fault());
+        } else {
+            due("reason " + depth, x.reason(depth, isDetail), plain.reason(depth, isDetail));
+        }
+    }
+
+    private boolean hasRoom(int calls) {
+        return x.calls() + calls <= CountedGreen.MOST_CALLS;
+    }
+
+    /** Makes and tells something in turn, and at the end of the calls only tells. */
+    private void runOnce() {
+        dice = new Dice(run);
+        x = new CountedGreen();
+        plain = new PlainGreen();
+        int made = 100 + dice.nextInt(400);
+        while (hasRoom(1)) {
+            if (x.calls() < made && dice.nextInt(3) != 0) {
                 doSomething();
+            } else {
                 tell();
-                if (call % 16 == 0) {
-                    tellAll();
-                }
             }
         }
-        check.end();
     }
 
     public static void main(String[] args) {
-        new MixedRunsTest().runAll();
+        MixedRunsTest test = new MixedRunsTest();
+        for (test.run = 0; test.run < RUNS; test.run++) {
+            test.runOnce();
+        }
+        test.check.end();
     }
 }

@@ -7,8 +7,8 @@ public final class PastTest {
     private static final Check CHECK = new Check();
 
     /** A green on which much has changed. */
-    private static BowlsGreen changed() {
-        BowlsGreen x = new BowlsGreen();
+    private static CountedGreen changed() {
+        CountedGreen x = new CountedGreen();
         x.rink(5, 10);
         x.rink(15, 20);
         x.wood(0, 3);
@@ -35,8 +35,8 @@ public final class PastTest {
 
     private static void clear() {
         CHECK.promise(2);
-        BowlsGreen x = changed();
-        String fresh = Check.all(new BowlsGreen());
+        CountedGreen x = changed();
+        String fresh = Check.all(new CountedGreen());
         x.save();
         String saved = Check.all(x);
         x.describe(0);
@@ -63,7 +63,7 @@ public final class PastTest {
         CHECK.dueText("what was saved stays", Check.all(x), saved);
     }
 
-    private static void lay(BowlsGreen x) {
+    private static void lay(CountedGreen x) {
         for (int i = 0; i < 2; i++) {
             x.rink(5 * i, 5 * i + 4);
             x.wood(1 - i, i);
@@ -73,9 +73,9 @@ public final class PastTest {
     /** Rinks and woods with numbers that others had before know nothing of those. */
     private static void laidAnew() {
         CHECK.promise(2);
-        BowlsGreen fresh = new BowlsGreen();
+        CountedGreen fresh = new CountedGreen();
         lay(fresh);
-        BowlsGreen x = new BowlsGreen();
+        CountedGreen x = new CountedGreen();
         lay(x);
         x.begin(0, 20);
         x.bowl(0, 1, 2, 20, true);
@@ -92,7 +92,7 @@ public final class PastTest {
         CHECK.due("bowl(0, 1, 2, 8, true)", x.bowl(0, 1, 2, 8, true), 0);
     }
 
-    private static void change(BowlsGreen x, int number) {
+    private static void change(CountedGreen x, int number) {
         switch (number) {
             case 0 -> CHECK.due("rink", x.rink(21, 25), 2);
             case 1 -> CHECK.due("wood", x.wood(1, 1), 4);
@@ -113,7 +113,7 @@ public final class PastTest {
     private static void undoEach() {
         CHECK.promise(35);
         for (int number = 0; number < 13; number++) {
-            BowlsGreen x = changed();
+            CountedGreen x = changed();
             String before = Check.all(x);
             if (number == 2) { // an end can begin on a dry rink alone
                 x.sun(9);
@@ -130,7 +130,7 @@ public final class PastTest {
     /** What bowling and closing change, and what shows only in the ends to come. */
     private static void undoInEnds() {
         CHECK.promise(35);
-        BowlsGreen x = new BowlsGreen();
+        CountedGreen x = new CountedGreen();
         x.rink(5, 10);
         for (int i = 0; i < 10; i++) {
             x.wood(i % 2, 0);
@@ -158,7 +158,7 @@ public final class PastTest {
 
     private static void undoEight() {
         CHECK.promise(35);
-        BowlsGreen x = new BowlsGreen();
+        CountedGreen x = new CountedGreen();
         CHECK.due("undo()", x.undo(), NOTHING);
         for (int i = 1; i <= 9; i++) {
             x.rain(i);
@@ -185,7 +185,7 @@ public final class PastTest {
 
     private static void whatStays() {
         CHECK.promise(35);
-        BowlsGreen x = new BowlsGreen();
+        CountedGreen x = new CountedGreen();
         x.rink(0, 5);
         x.rain(3);
         x.describe(0);
@@ -207,7 +207,7 @@ public final class PastTest {
 
     private static void codesAreNoChanges() {
         CHECK.promise(35);
-        BowlsGreen x = changed();
+        CountedGreen x = changed();
         x.undo();
         String before = Check.all(x);
         int[] answers = {x.rink(0, 1), x.rink(0, 5), x.wood(2, 0), x.wood(0, 10), x.begin(2, 20), x.begin(1, 19),
@@ -225,7 +225,7 @@ public final class PastTest {
 
     private static void save() {
         CHECK.promise(36);
-        BowlsGreen x = changed();
+        CountedGreen x = changed();
         String before = Check.all(x);
         CHECK.due("save()", x.save(), 6);
         CHECK.due("account(14)", x.account(14), 8);
@@ -248,7 +248,7 @@ public final class PastTest {
 
     private static void restore() {
         CHECK.promise(37);
-        BowlsGreen x = changed();
+        CountedGreen x = changed();
         CHECK.due("restore()", x.restore(), NOTHING);
         CHECK.due("account(14)", x.account(14), 8);
         x.save();

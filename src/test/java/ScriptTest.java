@@ -6,8 +6,8 @@ public final class ScriptTest {
     private static final int NOTHING = BowlsGreen.NOTHING;
     private static final Check CHECK = new Check();
 
-    private static BowlsGreen green() {
-        BowlsGreen x = new BowlsGreen();
+    private static CountedGreen green() {
+        CountedGreen x = new CountedGreen();
         x.rink(0, 9);
         x.rink(10, 19);
         x.wood(0, 3);
@@ -17,7 +17,7 @@ public final class ScriptTest {
 
     private static void orders() {
         CHECK.promise(15);
-        BowlsGreen x = green();
+        CountedGreen x = green();
         CHECK.due("e1:30;b1,0@14*13-", Check.script(x, "e1:30;b1,0@14*13-"), 2);
         CHECK.due("account(13)", x.account(13), 0);
         CHECK.due("account(14)", x.account(14), 5);
@@ -53,7 +53,7 @@ public final class ScriptTest {
     /** Each order has its own numbers, and each wood its own side. */
     private static void sides() {
         CHECK.promise(15);
-        BowlsGreen x = green();
+        CountedGreen x = green();
         CHECK.due("both sides", Check.script(x, "e0:30;b0,0@4*10+;b0,1@6*10-;r0;h1"), 5);
         CHECK.due("woodOf(0, 4)", x.woodOf(0, 4), 7);
         CHECK.due("woodOf(1, 4)", x.woodOf(1, 4), 1);
@@ -66,7 +66,7 @@ public final class ScriptTest {
 
     private static void deadWood() {
         CHECK.promise(15);
-        BowlsGreen x = green();
+        CountedGreen x = green();
         CHECK.due("a dead wood is no code", Check.script(x, "e0:20;b0,0@0*20+;b0,1@0*8+"), 3);
         CHECK.due("woodOf(0, 2)", x.woodOf(0, 2), 2);
         CHECK.due("woodOf(1, 2)", x.woodOf(1, 2), 1);
@@ -77,7 +77,7 @@ public final class ScriptTest {
 
     private static void refused() {
         CHECK.promise(15);
-        BowlsGreen x = green();
+        CountedGreen x = green();
         String before = Check.all(x);
         CHECK.due("the last order fails", Check.script(x, "r9;h3;w0;t0;e0:20"), REFUSED);
         CHECK.dueText("all as before", Check.all(x), before);
@@ -111,7 +111,7 @@ public final class ScriptTest {
 
     private static void refusedWhenFull() {
         CHECK.promise(15);
-        BowlsGreen x = green();
+        CountedGreen x = green();
         for (int i = 0; i < 9; i++) {
             x.brew(i + 1);
             CHECK.due("refused", Check.script(x, "r9;h3;e0:20"), REFUSED);
@@ -126,7 +126,7 @@ public final class ScriptTest {
     }
 
     private static void dueFault(String text, int position) {
-        BowlsGreen x = new BowlsGreen();
+        CountedGreen x = new CountedGreen();
         Check.type(x, text);
         CHECK.promise(15);
         CHECK.due(text, x.script(), BAD);
@@ -156,7 +156,7 @@ public final class ScriptTest {
 
     private static void faultStays() {
         CHECK.promise(16);
-        BowlsGreen x = green();
+        CountedGreen x = green();
         CHECK.due("fault()", x.fault(), NOTHING);
         Check.script(x, "r1;s");
         CHECK.due("fault()", x.fault(), 4);
@@ -175,7 +175,7 @@ public final class ScriptTest {
 
     private static void reason() {
         CHECK.promise(17);
-        BowlsGreen x = green();
+        CountedGreen x = green();
         CHECK.due("reason(-1, false)", x.reason(-1, false), BAD);
         CHECK.due("reason(min, true)", x.reason(Integer.MIN_VALUE, true), BAD);
         CHECK.due("reason(0, false)", x.reason(0, false), NOTHING);

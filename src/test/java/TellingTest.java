@@ -6,8 +6,8 @@ public final class TellingTest {
     private static final Check CHECK = new Check();
 
     /** An end on the rink 0 with woods of both clubs that lie, and one that is dead. */
-    private static BowlsGreen played() {
-        BowlsGreen x = new BowlsGreen();
+    private static CountedGreen played() {
+        CountedGreen x = new CountedGreen();
         x.rink(5, 10);
         x.rink(11, 13);
         x.wood(0, 3);
@@ -26,7 +26,7 @@ public final class TellingTest {
 
     private static void rinkOf() {
         CHECK.promise(18);
-        BowlsGreen x = played();
+        CountedGreen x = played();
         int[] zero = {5, 10, 6, 1, 28, 1, 2, 1, 0};
         int[] one = {11, 13, 6, 1, 0, 0, 0, 0, 0};
         for (int what = 0; what < zero.length; what++) {
@@ -48,7 +48,7 @@ public final class TellingTest {
 
     private static void woodOf() {
         CHECK.promise(19);
-        BowlsGreen x = played();
+        CountedGreen x = played();
         int[][] woods = {
             {0, 3, 1, 0, 8, 26, 5, 1},
             {1, 0, 1, 0, 8, 28, 1, 1},
@@ -80,7 +80,7 @@ public final class TellingTest {
 
     private static void clubOf() {
         CHECK.promise(20);
-        BowlsGreen x = played();
+        CountedGreen x = played();
         x.tea(1);
         x.tea(1);
         x.wood(1, 2);
@@ -105,7 +105,7 @@ public final class TellingTest {
     }
 
     /** Lets a club win an end with so many shots, from 1 to 4, or with none close it. */
-    private static void winEnd(BowlsGreen x, int club, int shots) {
+    private static void winEnd(CountedGreen x, int club, int shots) {
         x.begin(0, 20);
         for (int i = 0; i < 2 * shots; i++) {
             int turn = x.rinkOf(0, 5);
@@ -114,8 +114,8 @@ public final class TellingTest {
         x.close(0);
     }
 
-    private static BowlsGreen eightWoods() {
-        BowlsGreen x = new BowlsGreen();
+    private static CountedGreen eightWoods() {
+        CountedGreen x = new CountedGreen();
         x.rink(4, 6);
         for (int i = 0; i < 8; i++) {
             x.wood(i % 2, 0);
@@ -125,7 +125,7 @@ public final class TellingTest {
 
     private static void leader() {
         CHECK.promise(29);
-        BowlsGreen x = eightWoods();
+        CountedGreen x = eightWoods();
         CHECK.due("leader()", x.leader(), NOTHING);
         winEnd(x, 1, 2);
         CHECK.due("leader()", x.leader(), 1);
@@ -155,7 +155,7 @@ public final class TellingTest {
 
     private static void describe() {
         CHECK.promise(30);
-        BowlsGreen x = new BowlsGreen();
+        CountedGreen x = new CountedGreen();
         CHECK.due("describe(0)", x.describe(0), NONE);
         x.rink(5, 10);
         x.rink(27, 29);
@@ -194,7 +194,7 @@ public final class TellingTest {
 
     private static void written() {
         CHECK.promise(31);
-        BowlsGreen x = new BowlsGreen();
+        CountedGreen x = new CountedGreen();
         CHECK.due("written(0)", x.written(0), NONE);
         x.rink(5, 10);
         x.describe(0);
@@ -213,7 +213,7 @@ public final class TellingTest {
 
     private static void winShare() {
         CHECK.promise(33);
-        BowlsGreen x = eightWoods();
+        CountedGreen x = eightWoods();
         CHECK.dueDouble("winShare()", x.winShare(), 0.0);
         x.begin(0, 20);
         CHECK.dueDouble("winShare()", x.winShare(), 0.0);
@@ -237,7 +237,7 @@ public final class TellingTest {
 
     private static void account() {
         CHECK.promise(34);
-        BowlsGreen x = played();
+        CountedGreen x = played();
         x.tea(0);
         x.append('r');
         int[] accounts = {2, 5, 5, 2, 4, 1, 0, 3, 11, 1, 2, 0, 1, 1, 8};

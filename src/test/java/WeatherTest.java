@@ -7,8 +7,8 @@ public final class WeatherTest {
     private static final Check CHECK = new Check();
 
     /** A rink that is wet by 20, and stays so. */
-    private static BowlsGreen wetGreen() {
-        BowlsGreen x = new BowlsGreen();
+    private static CountedGreen wetGreen() {
+        CountedGreen x = new CountedGreen();
         x.rain(9);
         x.sun(0);
         x.rink(0, 9);
@@ -18,7 +18,7 @@ public final class WeatherTest {
     }
 
     private static void dueSweep(int casts, int cups) {
-        BowlsGreen x = new BowlsGreen();
+        CountedGreen x = new CountedGreen();
         x.rink(0, 9);
         x.rain(9);
         x.hour(casts);
@@ -37,7 +37,7 @@ public final class WeatherTest {
         for (int casts = 1; casts <= 9; casts++) {
             dueSweep(casts, cups[casts]);
         }
-        BowlsGreen x = wetGreen();
+        CountedGreen x = wetGreen();
         CHECK.due("sweep(1)", x.sweep(1), NONE);
         CHECK.due("sweep(-1)", x.sweep(-1), NONE);
         x.rink(10, 13);
@@ -69,7 +69,7 @@ public final class WeatherTest {
 
     private static void rainAndSun() {
         CHECK.promise(10);
-        BowlsGreen x = new BowlsGreen();
+        CountedGreen x = new CountedGreen();
         CHECK.due("rain(-1)", x.rain(-1), BAD);
         CHECK.due("rain(10)", x.rain(10), BAD);
         CHECK.due("account(14)", x.account(14), 0);
@@ -91,7 +91,7 @@ public final class WeatherTest {
 
     private static void brew() {
         CHECK.promise(12);
-        BowlsGreen x = new BowlsGreen();
+        CountedGreen x = new CountedGreen();
         CHECK.due("brew(0)", x.brew(0), BAD);
         CHECK.due("brew(-1)", x.brew(-1), BAD);
         CHECK.due("brew(21)", x.brew(21), BAD);
@@ -110,7 +110,7 @@ public final class WeatherTest {
 
     private static void tea() {
         CHECK.promise(13);
-        BowlsGreen x = new BowlsGreen();
+        CountedGreen x = new CountedGreen();
         CHECK.due("tea(2)", x.tea(2), NONE);
         CHECK.due("tea(-1)", x.tea(-1), NONE);
         for (int i = 1; i <= 10; i++) {
@@ -137,7 +137,7 @@ public final class WeatherTest {
 
     private static void hour() {
         CHECK.promise(14);
-        BowlsGreen x = new BowlsGreen();
+        CountedGreen x = new CountedGreen();
         CHECK.due("hour(0)", x.hour(0), BAD);
         CHECK.due("hour(25)", x.hour(25), BAD);
         CHECK.due("hour(-1)", x.hour(-1), BAD);
@@ -183,7 +183,7 @@ public final class WeatherTest {
     }
 
     private static void ahead() {
-        BowlsGreen x = new BowlsGreen();
+        CountedGreen x = new CountedGreen();
         CHECK.promise(26);
         CHECK.due("wetIn(0, 0)", x.wetIn(0, 0), NONE);
         x.rink(0, 4);
@@ -213,7 +213,7 @@ public final class WeatherTest {
         x.hour(3);
         x.begin(0, 20);
         CHECK.due("castsIn(0, 40)", x.castsIn(0, 40), 9);
-        x = new BowlsGreen();
+        x = new CountedGreen();
         x.rink(0, 4);
         x.begin(0, 20);
         x.rain(9);
@@ -228,7 +228,7 @@ public final class WeatherTest {
 
     private static void dryIn() {
         CHECK.promise(28);
-        BowlsGreen x = new BowlsGreen();
+        CountedGreen x = new CountedGreen();
         CHECK.due("dryIn(0)", x.dryIn(0), NONE);
         x.rink(0, 4);
         x.rain(9);
@@ -257,7 +257,7 @@ public final class WeatherTest {
 
     private static void meanWet() {
         CHECK.promise(32);
-        BowlsGreen x = new BowlsGreen();
+        CountedGreen x = new CountedGreen();
         CHECK.dueDouble("meanWet()", x.meanWet(), 0.0f);
         x.rain(9);
         x.rink(0, 4);
