@@ -116,6 +116,7 @@ public final class GreenEdgesTest {
         rows.hold(4, "BAD if a column is out of range",
             "rink(-1, 2) = BAD; rink(27, 30) = BAD; rink(min, max) = BAD; rink(max, min) = BAD; rink(min, 2) = BAD",
             "rink(27, max) = BAD; rink(2147483645, max) = BAD; rink(min, -2147483646) = BAD; rink(min, min) = BAD",
+            "rink(max, -2147483647) = BAD; rink(max, -2147483640) = BAD; rink(2147483646, min) = BAD; rink(2147483639, min) = BAD",
             "rink(max, max) = BAD; account(3) = 0; account(14) = 0; rink(0, 3) = 0; rink(26, 29) = 1; rink(-1, 2) = BAD");
         rows.hold(4, "or there are not from 3 to 10 columns;",
             "rink(10, 11) = BAD; rink(10, 10) = BAD; rink(10, 9) = BAD; rink(10, 8) = BAD; rink(10, 7) = BAD; rink(10, 20) = BAD",

@@ -110,9 +110,13 @@ public final class SentencesTest {
     public static void main(String[] args) throws IOException {
         Check check = new Check();
         holdAll(check);
-        List<Part> parts = parts(Files.readString(DOCUMENT));
-        dueInDocument(check, parts);
-        dueNamed(check, parts);
+        if (Files.exists(DOCUMENT)) {
+            List<Part> parts = parts(Files.readString(DOCUMENT));
+            dueInDocument(check, parts);
+            dueNamed(check, parts);
+        } else {
+            System.out.println("the sentences are not compared: there is no " + DOCUMENT);
+        }
         check.end();
     }
 }
